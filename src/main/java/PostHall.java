@@ -38,25 +38,14 @@ public final class PostHall {
         if (base < SLIP || base > PARCEL) {
             return BAD;
         }
-        if (messageCount >= MOST_MESSAGES) {
-            return FULL;
-        }
-        Message slip = new Message(messageCount, base, 0, 0);
-        slip.stamp = stamp;
-        return enter(slip);
+        return enter(base, 0, 0, stamp);
     }
 
     public int bundle(int base, int depth, int n) {
         if (depth < 1 || !isKind(base, depth) || n > MOST_PLACES) {
             return BAD;
         }
-        if (messageCount >= MOST_MESSAGES) {
-            return FULL;
-        }
-        if (n < 0) {
-            return SIZE;
-        }
-        return enter(new Message(messageCount, base, depth, n));
+        return enter(base, depth, n, 0);
     }
 
     public int place(int m, int i, int x) {
@@ -256,10 +245,16 @@ public final class PostHall {
         return b >= BYTES && d == 1;
     }
 
-    private int enter(Message message) {
+    /** The number of a new message, or a refusal. */
+    private int enter(int base, int depth, int n, int stamp) {
         if (messageCount >= MOST_MESSAGES) {
             return FULL;
         }
+        if (n < 0) {
+            return SIZE;
+        }
+        Message message = new Message(messageCount, base, depth, n);
+        message.stamp = stamp;
         messages[messageCount] = message;
         messageCount++;
         return message.number;
@@ -267,7 +262,7 @@ public final class PostHall {
 
     /** The message of that number; null: there is none such. */
     private Message messageAt(int m) {
-        return m >= 0 && m < messageCount && m < MOST_MESSAGES ? messages[m] : null;
+        return m >= 0 && m < MOST_MESSAGES ? messages[m] : null;
     }
 
     /** The counter of that number; null: there is none such that is set. */
@@ -425,7 +420,7 @@ public final class PostHall {
             this.base = base;
             this.depth = depth;
             figures = isOfFigures(base, depth);
-            places = new int[Math.max(n, 0)];
+            places = new int[n];
             if (!figures) {
                 fill(NONE);
             }

@@ -53,8 +53,8 @@ public final class CountersTest {
     }
 
     private static void kindsOfAsksAndWants() {
-        PostHall hall = new PostHall();
         for (int b : Halls.EDGES) {
+            PostHall hall = new PostHall();
             for (int d : Halls.EDGES) {
                 boolean kind = b >= 0 && b <= 5 && d >= (b < 4 ? 0 : 1) && d <= 3;
                 T.due("10: asks (" + b + ", " + d + ")", hall.counter(0, b, d, 0, 0), kind ? 1 : BAD);
@@ -173,20 +173,22 @@ public final class CountersTest {
     }
 
     private static void refusalsChangeNothing() {
-        PostHall hall = Halls.ofEveryKind();
+        PostHall hall = new PostHall();
+        int slip = hall.slip(0, 1);
+        int bundle = hall.bundle(0, 1, 2);
         hall.counter(0, 0, 1, 0, 1);
-        hall.job(0, 2, 1, 1, 1);
-        hall.send(3, 0);
+        hall.job(0, 2, 1, slip, 1);
+        hall.send(bundle, 0);
         String before = Halls.state(hall);
         hall.counter(8, 0, 0, 0, 0);
         hall.counter(0, 4, 0, 0, 0);
         hall.counter(1, 0, 0, 0, 4);
         hall.job(0, 6, 5, NONE, 0);
         hall.job(0, 1, 5, 21, 0);
-        hall.job(0, 1, 5, 2, 2);
+        hall.job(0, 1, 5, slip, 2);
         hall.shut(1, true);
         hall.send(21, 0);
-        hall.send(3, -1);
+        hall.send(bundle, -1);
         hall.told(5);
         T.due("refusals change nothing", Halls.state(hall).equals(before));
     }

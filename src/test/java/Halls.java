@@ -35,7 +35,7 @@ final class Halls {
         return hall;
     }
 
-    /** Everything of a hall that a call can tell, as one text. */
+    /** Everything of a hall that a call can tell, as one text; of a hall of few messages, for an object has 512 calls. */
     static String state(PostHall hall) {
         StringBuilder text = new StringBuilder();
         for (int what = 0; what <= 2; what++) {

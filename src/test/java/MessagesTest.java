@@ -150,12 +150,12 @@ public final class MessagesTest {
     }
 
     private static void whatBundlesHold() {
-        PostHall hall = Halls.ofEveryKind();
         for (int base = 0; base <= 5; base++) {
             for (int depth = 1; depth <= 3; depth++) {
                 if (base >= 4 && depth == 1) {
                     continue;
                 }
+                PostHall hall = Halls.ofEveryKind();
                 int bundle = Halls.bundleOf(base, depth);
                 for (int x = 0; x <= 20; x++) {
                     boolean holds = hall.about(x, 1) == depth - 1 && passes(hall.about(x, 0), base);
@@ -229,8 +229,8 @@ public final class MessagesTest {
     }
 
     private static void whatPassesForWhat() {
-        PostHall hall = Halls.ofEveryKind();
         for (int m = 0; m <= 20; m++) {
+            PostHall hall = Halls.ofEveryKind();
             for (int b = 0; b <= 5; b++) {
                 for (int d = b < 4 ? 0 : 1; d <= 3; d++) {
                     boolean is = hall.about(m, 1) == d && passes(hall.about(m, 0), b);
@@ -238,6 +238,7 @@ public final class MessagesTest {
                 }
             }
         }
+        PostHall hall = Halls.ofEveryKind();
         T.due("8: (4, 0)", hall.is(0, 4, 0), BAD);
         T.due("8: (5, 0)", hall.is(0, 5, 0), BAD);
         for (int odd : Halls.EDGES) {
@@ -271,20 +272,26 @@ public final class MessagesTest {
     }
 
     private static void refusalsChangeNothing() {
-        PostHall hall = Halls.ofEveryKind();
-        hall.place(3, 0, 1);
-        hall.figure(15, 0, 9);
+        PostHall hall = new PostHall();
+        int slip = hall.slip(0, 1);
+        int card = hall.slip(1, 2);
+        int cards = hall.bundle(1, 1, 2);
+        int bytes = hall.bundle(4, 1, 2);
+        hall.place(cards, 0, card);
+        hall.figure(bytes, 0, 9);
         String before = Halls.state(hall);
         hall.slip(3, 1);
         hall.bundle(0, 1, -1);
         hall.bundle(6, 1, 1);
-        hall.place(3, 0, 4);
-        hall.place(3, 0, 21);
-        hall.place(6, 0, 0);
-        hall.figure(15, 2, 1);
-        hall.figure(0, 0, 1);
-        hall.is(0, 4, 0);
-        hall.about(0, 3);
+        hall.place(cards, 0, slip);
+        hall.place(cards, 0, 4);
+        hall.place(cards, 0, bytes);
+        hall.place(bytes, 0, card);
+        hall.figure(bytes, 2, 1);
+        hall.figure(slip, 0, 1);
+        hall.figure(cards, 0, 0);
+        hall.is(slip, 4, 0);
+        hall.about(slip, 3);
         T.due("refusals change nothing", Halls.state(hall).equals(before));
     }
 }

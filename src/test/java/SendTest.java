@@ -273,6 +273,11 @@ public final class SendTest {
         dueTold("none", hall, 1, 1, 0, 0, NONE);
         T.due("13: spread of places that have none", hall.send(3, 0), 0);
         dueTold("places that have none", hall, 1, 1, 0, 0, NONE);
+        hall.counter(3, 0, 1, 0, 1);
+        hall.job(3, 4, 0, NONE, 0);
+        hall.shut(2, false);
+        T.due("13: spread from behind", hall.send(bundle, 3), 3);
+        dueTold("what is ahead of it stays out", hall, 1, 1, 4, 0, NONE);
     }
 
     private static void spreadEndsWithAFailure() {
